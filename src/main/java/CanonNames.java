@@ -501,6 +501,7 @@ public final class CanonNames {
     /** Finds the least row of all namings. */
     private static final class LeastRow {
         private final int[] numbers = new int[MOST_BLANKS];
+        private final int[] bestNumbers = new int[MOST_BLANKS];
         private final int[] trial = new int[MOST_TRIPLES];
         private boolean found = false;
 
@@ -516,17 +517,17 @@ public final class CanonNames {
 
         /**
          * Gives the numbers up to the one told to the blanks that are not taken. The greatest goes
-         * first: it makes the least points, and by these the row begins.
+         * first: it makes the least points, and by these the row begins. The answer is the number
+         * whose next blank is to be tried, if that is a greater one.
          */
-        private void search(Graph graph, Graph form, int number, int taken) {
+        private int search(Graph graph, Graph form, int number, int taken) {
             layTrial(graph, number, taken);
-            if (found && !isLess(trial, form.keys, form.triples)) {
-                return;
-            }
+            int order = found ? compare(trial, form.keys, form.triples) : -1;
             if (number < 1 || number > MOST_BLANKS) {
-                System.arraycopy(trial, 0, form.keys, 0, form.triples);
-                found = true;
-                return;
+                return settle(graph, form, order);
+            }
+            if (order > 0) {
+                return 0;
             }
             Groups groups = graph.groups;
             int group = form.groups.rank[number - 1];
@@ -534,9 +535,36 @@ public final class CanonNames {
                 int blank = groups.order[at];
                 if ((taken >> blank & 1) == 0) {
                     numbers[blank] = number;
-                    search(graph, form, number - 1, taken | 1 << blank);
+                    int back = search(graph, form, number - 1, taken | 1 << blank);
+                    if (back > number) {
+                        return back;
+                    }
                 }
             }
+            return 0;
+        }
+
+        private int settle(Graph graph, Graph form, int order) {
+            if (order < 0) {
+                System.arraycopy(trial, 0, form.keys, 0, form.triples);
+                System.arraycopy(numbers, 0, bestNumbers, 0, graph.blanks);
+                found = true;
+            }
+            return order == 0 ? greatestDifference(graph.blanks) : 0;
+        }
+
+        /**
+         * Two namings with the same row: the graph looks alike from the blanks to which they give the
+         * greatest number that differs, so that all behind the later one was seen behind the other.
+         */
+        private int greatestDifference(int blanks) {
+            int greatest = 0;
+            for (int blank = 0; blank < blanks; blank++) {
+                if (numbers[blank] != bestNumbers[blank]) {
+                    greatest = Math.max(greatest, numbers[blank]);
+                }
+            }
+            return greatest;
         }
 
         /** Lays a row that no row by these numbers is below, and that is their row when all are given. */
@@ -557,13 +585,13 @@ public final class CanonNames {
             }
         }
 
-        private static boolean isLess(int[] one, int[] other, int count) {
+        private static int compare(int[] one, int[] other, int count) {
             for (int i = 0; i < count; i++) {
                 if (one[i] != other[i]) {
-                    return one[i] < other[i];
+                    return one[i] < other[i] ? -1 : 1;
                 }
             }
-            return false;
+            return 0;
         }
     }
 

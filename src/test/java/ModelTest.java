@@ -13,6 +13,10 @@ public final class ModelTest {
         for (int seed = 1; seed <= 60; seed++) {
             evenRun(seed);
         }
+        for (int seed = 1; seed <= 60; seed++) {
+            turnedRun(seed);
+        }
+        longRun();
         Check.end("ModelTest");
     }
 
@@ -147,6 +151,54 @@ public final class ModelTest {
             }
             keep();
         }
+    }
+
+    /** Triples of blanks alone or of a blank and names, one for every blank by the same rule. */
+    private static void turnedRun(int seed) {
+        Random random = new Random(seed);
+        begin("turned run " + seed);
+        int n = 2 + seed % 7;
+        int rules = 1 + random.nextInt(5);
+        int[] drawn = new int[3 * rules];
+        for (int i = 0; i < drawn.length; i++) {
+            drawn[i] = random.nextInt(n + 2);
+        }
+        for (int copy = 0; copy < 2; copy++) {
+            int[] mixed = mix(random, n);
+            for (int b = 0; b < n; b++) {
+                blank();
+            }
+            for (int i = 0; i < drawn.length; i += 3) {
+                for (int b = 0; b < n; b++) {
+                    triple(turned(mixed, b, drawn[i]), turned(mixed, b, drawn[i + 1]), turned(mixed, b, drawn[i + 2]));
+                }
+            }
+            lookAtGraph();
+            name(50000);
+            lookAtNamed();
+            compare(copy - 1);
+            keep();
+        }
+    }
+
+    /** A graph of eight blanks for which six rounds are made. */
+    private static void longRun() {
+        begin("long run");
+        int[] points = {6, 6, 8, 2, 4, 7, 3, 1, 5, 7, 3, 6, 1, 5, 5, 3, 1, 2};
+        for (int b = 0; b < 8; b++) {
+            blank();
+        }
+        for (int i = 0; i < points.length; i += 2) {
+            triple(-points[i], 1, -points[i + 1]);
+            lookAtGraph();
+        }
+        due("rounds()", x.rounds(), 6);
+        name(1);
+        lookAtNamed();
+    }
+
+    private static int turned(int[] mixed, int b, int step) {
+        return step < mixed.length ? mixed[(b + step) % mixed.length] : step;
     }
 
     private static int[] mix(Random random, int n) {
