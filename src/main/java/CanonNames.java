@@ -301,7 +301,7 @@ public final class CanonNames {
     /** The blanks' hashes, and the groups that these make. */
     private static final class Groups {
         final int[] hashes = new int[MOST_BLANKS * WORDS];
-        // The blanks, group behind group; the place of a blank there is a number it may be named by.
+        // The blanks, group behind group: the places of a group are its numbers in each naming, less 1.
         final int[] order = new int[MOST_BLANKS];
         final int[] rank = new int[MOST_BLANKS];
         // Where in order each group starts, and behind the last one where it ends.
@@ -400,6 +400,10 @@ public final class CanonNames {
         // for a blank's hash the rank of this among all.
         private static final int SELF = MOST_NAMES + 1;
         private static final int OTHERS = MOST_NAMES + 2;
+        // The digest of no bytes, written out as every graph begins with it for each blank.
+        private static final int[] NO_BYTES = {
+            0xe3b0c442, 0x98fc1c14, 0x9afbf4c8, 0x996fb924, 0x27ae41e4, 0x649b934c, 0xa495991b, 0x7852b855
+        };
 
         private final Sha sha;
         private final int[] descriptions = new int[MOST_TRIPLES];
@@ -414,8 +418,7 @@ public final class CanonNames {
                 return;
             }
             for (int blank = 0; blank < graph.blanks; blank++) {
-                sha.begin();
-                sha.end(graph.groups.hashes, blank * WORDS);
+                System.arraycopy(NO_BYTES, 0, graph.groups.hashes, blank * WORDS, WORDS);
             }
             graph.groups.arrange(graph.blanks);
             boolean lone = graph.blanks < 2;
@@ -517,8 +520,8 @@ public final class CanonNames {
 
         /**
          * Gives the numbers up to the one told to the blanks that are not taken. The greatest goes
-         * first: it makes the least points, and by these the row begins. The answer is the number
-         * whose next blank is to be tried, if that is a greater one.
+         * first: it makes the least points, and by these the row begins. Answers a greater number
+         * when the search is to go on with that number's next blank, else 0.
          */
         private int search(Graph graph, Graph form, int number, int taken) {
             layTrial(graph, number, taken);
@@ -554,8 +557,9 @@ public final class CanonNames {
         }
 
         /**
-         * Two namings with the same row: the graph looks alike from the blanks to which they give the
-         * greatest number that differs, so that all behind the later one was seen behind the other.
+         * Two namings with the same row differ by a way in which the graph becomes itself, and this
+         * way leaves the blanks with greater numbers than the one answered where they are. So all rows
+         * behind the later choice for this number were seen behind the earlier one.
          */
         private int greatestDifference(int blanks) {
             int greatest = 0;
