@@ -13,6 +13,7 @@ public final class KeptEdgesTest {
         Edges.test("Promise 12", "FULL when there are 8.", KeptEdgesTest::promise12FullLeavesKept);
         Edges.test("Promise 13", "there are as many: 1 or 0.", KeptEdgesTest::promise13AsMany);
         Edges.test("Promise 13", "each one another one", KeptEdgesTest::promise13EachAnother);
+        Edges.test("Promise 13", "when its blanks get that one's blanks in some way", KeptEdgesTest::promise13NoBlanks);
         Edges.test("Promise 13", "BAD when there is no such kept one.", KeptEdgesTest::promise13Bad);
         Edges.test("Promise 14", "In how many ways that can be done", KeptEdgesTest::promise14HowMany);
         Edges.test("Promise 14", "(0 when it can not)", KeptEdgesTest::promise14CanNot);
@@ -188,6 +189,26 @@ public final class KeptEdgesTest {
         CanonNames rings = pair(graph(6, -1, 1, -2, -2, 1, -3, -3, 1, -4, -4, 1, -5, -5, 1, -6, -6, 1, -1),
                 graph(6, -1, 1, -2, -2, 1, -3, -3, 1, -1, -4, 1, -5, -5, 1, -6, -6, 1, -4));
         compare("a ring of six, and two rings", rings, 0, 0, 0);
+        CanonNames most = pair(graph(8, -1, 1, -2, -2, 1, -3, -3, 1, -4, -4, 1, -5, -5, 1, -6, -6, 1, -7, -7, 1, -8, -8, 1, -1),
+                graph(8, -1, 1, -2, -2, 1, -3, -3, 1, -4, -4, 1, -1, -5, 1, -6, -6, 1, -7, -7, 1, -8, -8, 1, -5));
+        compare("a ring of eight, and two rings", most, 0, 0, 0);
+    }
+
+    /** Without blanks there is one way, which changes nothing: only the very same graph becomes the kept one. */
+    private static void promise13NoBlanks() {
+        compare("the same triple", pair(graph(0, 1, 2, 3), graph(0, 1, 2, 3)), 1, 1, 1);
+        compare("another name", pair(graph(0, 1, 2, 3), graph(0, 1, 2, 4)), 0, 0, 0);
+        compare("a triple less", pair(graph(0, 1, 2, 3), graph(0)), 0, 0, 0);
+        compare("a triple more", pair(graph(0), graph(0, 1, 2, 3)), 0, 0, 0);
+        CanonNames full = pair(x -> Edges.fill(x, 40), x -> Edges.fill(x, 40));
+        compare("forty triples", full, 1, 1, 1);
+        for (int i = 1; i <= 40; i++) {
+            due("triple " + i + " goes", full.drop(i, 1, 1), 1);
+            Edges.triples(full, i, 1, 2);
+            compare("triple " + i + " of forty has another name", full, 0, 0, 0);
+            due("it goes", full.drop(i, 1, 2), 1);
+            Edges.triples(full, i, 1, 1);
+        }
     }
 
     private static void promise13Bad() {
