@@ -18,8 +18,7 @@ public final class CanonNames {
     private static final int PLACE_BITS = 10;
     private static final int PLACE_MASK = 1023;
 
-    private final Sha sha = new Sha();
-    private final Hasher hasher = new Hasher(sha);
+    private final Hasher hasher = new Hasher();
     private final Matcher matcher = new Matcher();
     private final LeastRow leastRow = new LeastRow();
     private final Named latest = new Named();
@@ -97,7 +96,7 @@ public final class CanonNames {
         if (i < 0 || i >= OCTETS) {
             throw new ArrayIndexOutOfBoundsException("there are octets 0 .. 31 only");
         }
-        latest.refreshDigest(sha);
+        latest.refreshDigest(hasher.sha);
         return (byte) (latest.digest[i >> 2] >>> (24 - 8 * (i & 3)));
     }
 
@@ -405,13 +404,10 @@ public final class CanonNames {
             0xe3b0c442, 0x98fc1c14, 0x9afbf4c8, 0x996fb924, 0x27ae41e4, 0x649b934c, 0xa495991b, 0x7852b855
         };
 
-        private final Sha sha;
+        // No message is begun before another one has ended, so that all digests can share it.
+        final Sha sha = new Sha();
         private final int[] descriptions = new int[MOST_TRIPLES];
         private Groups next = new Groups();
-
-        Hasher(Sha sha) {
-            this.sha = sha;
-        }
 
         void refresh(Graph graph) {
             if (graph.hashed) {
